@@ -44,7 +44,7 @@ public final class Figurehouse {
         agreements = new Agreements();
         draft = new Draft();
         book = new Book();
-        sheet = new Sheet(areas, items);
+        sheet = new Sheet();
         secrets = new boolean[CELLS];
         refusals = new int[MOST_LINES];
     }
@@ -145,7 +145,7 @@ public final class Figurehouse {
             throws IndexOutOfBoundsException, IllegalArgumentException {
         requireCell(area, item, period);
         requireDay(day);
-        sheet.load(book, period, day);
+        sheet.load(book, period, day, areas, items);
         return sheet.valueAt(slotOf(area, item));
     }
 
@@ -162,7 +162,7 @@ public final class Figurehouse {
         if (told == MISSING) {
             return false;
         }
-        sheet.load(book, period, today);
+        sheet.load(book, period, today, areas, items);
         int slot = slotOf(area, item);
         return isOtherSum(sheet.sumRightIn(areas, area, slot), told)
                 || isOtherSum(sheet.sumRightIn(items, item, slot), told);
@@ -295,8 +295,8 @@ public final class Figurehouse {
     }
 
     private void loadHidden(int period) {
-        sheet.load(book, period, today);
-        sheet.hide(secrets, period);
+        sheet.load(book, period, today, areas, items);
+        sheet.hide(secrets, period, areas, items);
     }
 
     // ---- patterns
@@ -468,15 +468,8 @@ public final class Figurehouse {
 
     /** The values of one period as they were known on one day, and which of them are hidden. */
     private static final class Sheet {
-        private final Tree areas;
-        private final Tree items;
         private final int[] values = new int[SLOTS];
         private final boolean[] hides = new boolean[SLOTS];
-
-        Sheet(Tree areas, Tree items) {
-            this.areas = areas;
-            this.items = items;
-        }
 
         int valueAt(int slot) {
             return slot >= 0 && slot < SLOTS ? values[slot] : MISSING;
@@ -486,7 +479,7 @@ public final class Figurehouse {
             return slot >= 0 && slot < SLOTS && hides[slot];
         }
 
-        void load(Book book, int period, int day) {
+        void load(Book book, int period, int day, Tree areas, Tree items) {
             loadFigures(book, period, day);
             // What lies in another has the higher number, so that going down no sum comes ahead of its parts.
             for (int area = areas.size - 1; area >= 0; area--) {
@@ -533,20 +526,20 @@ public final class Figurehouse {
             return headSlot + (number - head) * tree.stride;
         }
 
-        void hide(boolean[] secrets, int period) {
+        void hide(boolean[] secrets, int period, Tree areas, Tree items) {
             for (int slot = 0; slot < SLOTS; slot++) {
                 hides[slot] = secrets[period * SLOTS + slot] && values[slot] != MISSING;
             }
             boolean hidMore = true;
             // Each round but the last hides at least one more, so there are no more rounds than slots.
             for (int round = 0; round <= SLOTS && hidMore; round++) {
-                boolean hidByAreas = goThroughRows(true);
-                boolean hidByItems = goThroughRows(false);
+                boolean hidByAreas = goThroughRows(areas, items, true);
+                boolean hidByItems = goThroughRows(areas, items, false);
                 hidMore = hidByAreas || hidByItems;
             }
         }
 
-        private boolean goThroughRows(boolean isByAreas) {
+        private boolean goThroughRows(Tree areas, Tree items, boolean isByAreas) {
             boolean hidMore = false;
             for (int area = 0; area < areas.size; area++) {
                 for (int item = 0; item < items.size; item++) {

@@ -100,6 +100,12 @@ public final class SecretsTest {
         Figurehouse house = star(9);
         Check.is("9: the only one in it", house.secret(1, 0, 0, true), 2);
         Check.is("16: the sum is hidden then", house.shown(0, 0, 0), HIDDEN);
+        Figurehouse beside = Houses.flat(2, 1);
+        Houses.add(beside, beside.area(1), 0, 0, 4);
+        Houses.add(beside, 0, 0, 0, 6);
+        Check.is("9: the only one in it and its sum", beside.secret(2, 0, 0, true), 2);
+        Check.is("16: its own sum is hidden", beside.shown(1, 0, 0), HIDDEN);
+        Check.is("16: the one beside is not", beside.shown(0, 0, 0), 6);
         Figurehouse items = Houses.stars(0, 1);
         Houses.add(items, 0, 1, 7, 2);
         Check.is("9: the only item in it", items.secret(0, 1, 7, true), 2);
