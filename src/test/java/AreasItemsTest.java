@@ -5,12 +5,9 @@ public final class AreasItemsTest {
     public static void main(String[] args) {
         newObject();
         numbersAreas();
-        refusesAreas();
         numbersItems();
-        refusesItems();
         agreesAndEnds();
         coversWhatLiesIn();
-        refusesAgreements();
         Check.end("AreasItemsTest");
     }
 
@@ -50,16 +47,6 @@ public final class AreasItemsTest {
         Check.is("2: it lies in all others", house.agree(1, 0, true) && house.mayTell(1, 13), true);
     }
 
-    private static void refusesAreas() {
-        Figurehouse house = new Figurehouse();
-        Check.noIndex("2: in itself", () -> house.area(0));
-        Check.noIndex("2: the least", () -> house.area(Integer.MIN_VALUE));
-        Check.noIndex("2: the most", () -> house.area(Integer.MAX_VALUE));
-        Check.is("2: refused ones take no number", house.area(NONE), 0);
-        Check.noIndex("2: in itself again", () -> house.area(1));
-        Check.is("2: in the first", house.area(0), 1);
-    }
-
     private static void numbersItems() {
         Figurehouse house = new Figurehouse();
         for (int number = 0; number < 10; number++) {
@@ -73,16 +60,6 @@ public final class AreasItemsTest {
         house.agree(0, 0, true);
         Houses.add(house, 0, 9, 0, 5);
         Check.is("3: the last lies in all others", house.value(0, 0, 0, 0), 5);
-    }
-
-    private static void refusesItems() {
-        Figurehouse house = new Figurehouse();
-        house.area(NONE);
-        Check.noIndex("3: in itself", () -> house.item(0));
-        Check.noIndex("3: the least", () -> house.item(Integer.MIN_VALUE));
-        Check.noIndex("3: the most", () -> house.item(Integer.MAX_VALUE));
-        Check.is("3: refused ones take no number", house.item(NONE), 0);
-        Check.is("3: in the first", house.item(0), 1);
     }
 
     private static void agreesAndEnds() {
@@ -125,19 +102,5 @@ public final class AreasItemsTest {
         int later = house.area(2);
         Check.is("19: an area taken up later", house.mayTell(1, later), true);
         Check.is("19: an area taken up later, of another", house.mayTell(2, later), false);
-    }
-
-    private static void refusesAgreements() {
-        Figurehouse house = Houses.flat(2, 1);
-        for (int sender : new int[] {-1, 4, Integer.MIN_VALUE, Integer.MAX_VALUE}) {
-            Check.noIndex("4: sender " + sender, () -> house.agree(sender, 0, true));
-            Check.noIndex("19: sender " + sender, () -> house.mayTell(sender, 0));
-        }
-        for (int area : new int[] {-1, 2, 14, Integer.MIN_VALUE, Integer.MAX_VALUE}) {
-            Check.noIndex("4: area " + area, () -> house.agree(0, area, true));
-            Check.noIndex("19: area " + area, () -> house.mayTell(0, area));
-        }
-        Check.is("4: the last sender and area", house.agree(3, 1, true), true);
-        Check.is("19: refused ones agree nothing", house.mayTell(2, 1), false);
     }
 }

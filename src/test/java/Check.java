@@ -7,8 +7,18 @@ final class Check {
 
     private static int wrong = 0;
     private static int checks = 0;
+    private static String about = "";
 
     private Check() {
+    }
+
+    /** Of what the checks are that follow: it is printed ahead of what is wrong. */
+    static void about(String what) {
+        about = what + ": ";
+    }
+
+    static int checks() {
+        return checks;
     }
 
     static void is(String what, long got, long want) {
@@ -56,7 +66,7 @@ final class Check {
 
     private static void tell(String text) {
         wrong++;
-        System.out.println("  " + text);
+        System.out.println("  " + about + text);
     }
 
     static void end(String name) {

@@ -8,8 +8,6 @@ public final class FindTest {
         findsSince();
         findsFigures();
         findsEdges();
-        refuses();
-        ordersExceptions();
         Check.end("FindTest");
     }
 
@@ -97,35 +95,5 @@ public final class FindTest {
         Houses.add(house, 13, 9, 11, 1);
         finds("the last cell", house, 13, 9, 11, 11, 0, 11269);
         finds("the last cell of all", house, NONE, NONE, 0, 11, 0, 11269);
-    }
-
-    private static void refuses() {
-        Figurehouse house = Houses.flat(2, 3);
-        for (int area : new int[] {-2, 2, 14, Integer.MIN_VALUE, Integer.MAX_VALUE}) {
-            Check.noIndex("18: area " + area, () -> house.find(area, 0, 0, 11, 0, 0));
-        }
-        for (int item : new int[] {-2, 3, 10, Integer.MIN_VALUE, Integer.MAX_VALUE}) {
-            Check.noIndex("18: item " + item, () -> house.find(0, item, 0, 11, 0, 0));
-        }
-        for (int place : new int[] {-1, Integer.MIN_VALUE}) {
-            Check.noIndex("18: place " + place, () -> house.find(0, 0, 0, 11, 0, place));
-        }
-        for (int from : new int[] {-1, 12, Integer.MIN_VALUE, Integer.MAX_VALUE}) {
-            Check.noArgument("18: from " + from, () -> house.find(0, 0, from, 11, 0, 0));
-            Check.noArgument("18: both " + from, () -> house.find(0, 0, from, from, 0, 0));
-        }
-        for (int to : new int[] {-1, 2, 12, Integer.MIN_VALUE, Integer.MAX_VALUE}) {
-            Check.noArgument("18: to " + to, () -> house.find(0, 0, 3, to, 0, 0));
-        }
-        for (int since : new int[] {-1, 1001, Integer.MIN_VALUE, Integer.MAX_VALUE}) {
-            Check.noArgument("18: since " + since, () -> house.find(0, 0, 0, 11, since, 0));
-        }
-    }
-
-    private static void ordersExceptions() {
-        Figurehouse house = Houses.flat(1, 1);
-        Check.noIndex("18: area ahead of from", () -> house.find(1, 0, -1, 11, 0, 0));
-        Check.noIndex("18: item ahead of to", () -> house.find(0, 1, 0, 12, 0, 0));
-        Check.noIndex("18: place ahead of since", () -> house.find(0, 0, 0, 11, 1001, -1));
     }
 }

@@ -28,6 +28,20 @@ final class Houses {
         return house;
     }
 
+    /** One area and one item, without a figure; sender 0 has an agreement. */
+    static Figurehouse single() {
+        return flat(1, 1);
+    }
+
+    /** As many areas as told, each right in the one ahead of it, and an item; nobody has an agreement. */
+    static Figurehouse chain(int areas) {
+        Figurehouse house = flat(0, 1);
+        for (int area = 0; area < areas; area++) {
+            house.area(area - 1);
+        }
+        return house;
+    }
+
     /** Sends one line as sender 0; returns how many lines were done. */
     static int tell(Figurehouse house, int what, int area, int item, int period, int value) {
         house.put(what, area, item, period, value);

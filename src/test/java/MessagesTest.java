@@ -7,9 +7,7 @@ public final class MessagesTest {
 
     public static void main(String[] args) {
         putsAndWipes();
-        refusesToPut();
         putsEdges();
-        ordersPutExceptions();
         sends();
         judgesInOrder();
         judgesBehindTheOnesAhead();
@@ -38,29 +36,6 @@ public final class MessagesTest {
         Check.is("6: what was wiped is not told", house.figure(0, 0, 0, 0), 7);
     }
 
-    private static void refusesToPut() {
-        Figurehouse house = Houses.flat(2, 3);
-        for (int area : new int[] {-1, 2, 14, Integer.MIN_VALUE, Integer.MAX_VALUE}) {
-            Check.noIndex("5: area " + area, () -> house.put(ADD, area, 0, 0, 0));
-        }
-        for (int item : new int[] {-1, 3, 10, Integer.MIN_VALUE, Integer.MAX_VALUE}) {
-            Check.noIndex("5: item " + item, () -> house.put(ADD, 0, item, 0, 0));
-        }
-        for (int period : new int[] {-1, 12, Integer.MIN_VALUE, Integer.MAX_VALUE}) {
-            Check.noIndex("5: period " + period, () -> house.put(ADD, 0, 0, period, 0));
-        }
-        for (int what : new int[] {-1, 3, Integer.MIN_VALUE, Integer.MAX_VALUE}) {
-            Check.noArgument("5: what " + what, () -> house.put(what, 0, 0, 0, 0));
-        }
-        for (int value : new int[] {-1000001, 1000001, MISSING, Integer.MIN_VALUE, Integer.MAX_VALUE}) {
-            for (int what = ADD; what <= DELETE; what++) {
-                int kind = what;
-                Check.noArgument("5: value " + value, () -> house.put(kind, 0, 0, 0, value));
-            }
-        }
-        Check.is("5: refused lines are not in the draft", house.wipe(), 0);
-    }
-
     private static void putsEdges() {
         Figurehouse house = Houses.flat(14, 10);
         Check.is("5: the most", house.put(ADD, 13, 9, 11, 1000000), 1);
@@ -72,21 +47,6 @@ public final class MessagesTest {
         Check.is("5: nor that of another figure", house.put(DELETE, 0, 0, 0, 3), 2);
         Check.is("7: both are deleted", house.send(0), 2);
         Check.is("7: no figure any more", house.figure(13, 9, 11, 0), MISSING);
-    }
-
-    private static void ordersPutExceptions() {
-        Figurehouse house = Houses.flat(1, 1);
-        Check.noIndex("5: area ahead of what", () -> house.put(3, 1, 0, 0, 0));
-        Check.noIndex("5: item ahead of value", () -> house.put(ADD, 0, 1, 0, 1000001));
-        Check.noIndex("5: period ahead of both", () -> house.put(-1, 0, 0, 12, -1000001));
-        for (int line = 0; line < 16; line++) {
-            house.put(ADD, 0, 0, 0, line);
-        }
-        Check.noIndex("5: area ahead of the full draft", () -> house.put(ADD, -1, 0, 0, 0));
-        Check.noIndex("5: period ahead of the full draft", () -> house.put(ADD, 0, 0, -1, 0));
-        Check.noArgument("5: what ahead of the full draft", () -> house.put(3, 0, 0, 0, 0));
-        Check.noArgument("5: value ahead of the full draft", () -> house.put(ADD, 0, 0, 0, 1000001));
-        Check.is("5: the draft stays", house.wipe(), 16);
     }
 
     private static void sends() {

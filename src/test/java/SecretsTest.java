@@ -19,7 +19,6 @@ public final class SecretsTest {
         goesRoundAgain();
         keepsToThePeriod();
         takesBack();
-        refuses();
         Check.end("SecretsTest");
     }
 
@@ -227,22 +226,5 @@ public final class SecretsTest {
         Check.is("9: not secret any more", house.secret(1, 0, 0, false), 0);
         Check.is("16: shown again", house.shown(2, 0, 0), 5);
         Check.is("16: the sum of values", house.shown(0, 0, 0), 9);
-    }
-
-    private static void refuses() {
-        Figurehouse house = Houses.flat(2, 3);
-        for (int area : new int[] {-1, 2, 14, Integer.MIN_VALUE, Integer.MAX_VALUE}) {
-            Check.noIndex("9: area " + area, () -> house.secret(area, 0, 0, true));
-            Check.noIndex("16: area " + area, () -> house.shown(area, 0, 0));
-        }
-        for (int item : new int[] {-1, 3, 10, Integer.MIN_VALUE, Integer.MAX_VALUE}) {
-            Check.noIndex("9: item " + item, () -> house.secret(0, item, 0, true));
-            Check.noIndex("16: item " + item, () -> house.shown(0, item, 0));
-        }
-        for (int period : new int[] {-1, 12, Integer.MIN_VALUE, Integer.MAX_VALUE}) {
-            Check.noIndex("9: period " + period, () -> house.secret(0, 0, period, true));
-            Check.noIndex("16: period " + period, () -> house.shown(0, 0, period));
-            Check.noIndex("17: period " + period, () -> house.hidden(period));
-        }
     }
 }

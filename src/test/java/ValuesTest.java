@@ -3,17 +3,9 @@ public final class ValuesTest {
     private static final int NONE = Figurehouse.NONE;
     private static final int MISSING = Figurehouse.MISSING;
 
-    /** What is asked of a cell. */
-    private interface Question {
-        void ask(int area, int item, int period);
-    }
-
     public static void main(String[] args) {
         passes();
-        refusesToPass();
         knowsFiguresOfDays();
-        asksDays();
-        asksCells();
         sumsAreas();
         sumsItems();
         prefersAreas();
@@ -46,14 +38,6 @@ public final class ValuesTest {
         Check.is("10: not on the day before", house.figure(0, 0, 0, 999), MISSING);
     }
 
-    private static void refusesToPass() {
-        Figurehouse house = new Figurehouse();
-        for (int days : new int[] {0, -1, 101, Integer.MIN_VALUE, Integer.MAX_VALUE}) {
-            Check.noArgument("10: days " + days, () -> house.pass(days));
-        }
-        Check.is("10: today stays", house.pass(1), 1);
-    }
-
     private static void knowsFiguresOfDays() {
         Figurehouse house = Houses.flat(1, 1);
         house.pass(2);
@@ -72,43 +56,6 @@ public final class ValuesTest {
             Check.is("12: day " + day, house.value(0, 0, 3, day), due[day]);
         }
         Check.is("11: another period", house.figure(0, 0, 2, 6), MISSING);
-    }
-
-    private static void asksDays() {
-        Figurehouse house = Houses.flat(1, 1);
-        house.pass(5);
-        for (int day : new int[] {-1, 6, 1001, Integer.MIN_VALUE, Integer.MAX_VALUE}) {
-            Check.noArgument("11: day " + day, () -> house.figure(0, 0, 0, day));
-            Check.noArgument("12: day " + day, () -> house.value(0, 0, 0, day));
-            Check.noIndex("11: the cell comes first", () -> house.figure(1, 0, 0, day));
-            Check.noIndex("12: the cell comes first", () -> house.value(0, 0, 12, day));
-        }
-    }
-
-    private static void asksCells() {
-        Figurehouse house = Houses.flat(2, 3);
-        refusesCells("11", (area, item, period) -> house.figure(area, item, period, 0));
-        refusesCells("12", (area, item, period) -> house.value(area, item, period, 0));
-        refusesCells("13", house::first);
-        refusesCells("14", house::revisions);
-        refusesCells("15", house::hasFault);
-        Check.is("11: the last cell", house.figure(1, 2, 11, 0), MISSING);
-        Check.is("12: the last cell", house.value(1, 2, 11, 0), MISSING);
-        Check.is("13: the last cell", house.first(1, 2, 11), MISSING);
-        Check.is("14: the last cell", house.revisions(1, 2, 11), 0);
-        Check.is("15: the last cell", house.hasFault(1, 2, 11), false);
-    }
-
-    private static void refusesCells(String promise, Question question) {
-        for (int area : new int[] {-1, 2, 14, Integer.MIN_VALUE, Integer.MAX_VALUE}) {
-            Check.noIndex(promise + ": area " + area, () -> question.ask(area, 0, 0));
-        }
-        for (int item : new int[] {-1, 3, 10, Integer.MIN_VALUE, Integer.MAX_VALUE}) {
-            Check.noIndex(promise + ": item " + item, () -> question.ask(0, item, 0));
-        }
-        for (int period : new int[] {-1, 12, Integer.MIN_VALUE, Integer.MAX_VALUE}) {
-            Check.noIndex(promise + ": period " + period, () -> question.ask(0, 0, period));
-        }
     }
 
     private static void sumsAreas() {
