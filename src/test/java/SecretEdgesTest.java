@@ -20,6 +20,7 @@ public final class SecretEdgesTest {
         goesByAllAreasAheadOfItems();
         goesThroughAllBeforeAgain();
         goesOnUntilNoMore();
+        goesOnFartherThanAChain();
         namesConstants();
         Doc.end("SecretEdgesTest", "Secrets");
     }
@@ -211,6 +212,33 @@ public final class SecretEdgesTest {
         Check.is("14, all in one round", house.secret(0, 0, 0, true), 14);
         house.secret(0, 0, 0, false);
         Check.is("none", house.hidden(0), 0);
+    }
+
+    /**
+     * 17 rounds: in area 13 items 5, 4 and 3 are hidden one a round, then item 6, and from there on area by area up
+     * to area 0; in area 12 it is item 9 that is the nearest, and area 13 has it by its row.
+     */
+    private static void goesOnFartherThanAChain() {
+        Doc.at("Secrets", "That is done again and again, until it hides no more");
+        Figurehouse house = Houses.chain(14);
+        for (int in : new int[] {0, 1, 1, 3, 4, 1, 5, 7, 1}) {
+            house.item(in);
+        }
+        house.agree(0, 0, true);
+        Houses.add(house, 13, 2, 0, 3);
+        Houses.add(house, 12, 6, 0, 6);
+        Houses.add(house, 13, 8, 0, 1);
+        Houses.add(house, 13, 9, 0, 1);
+        Houses.add(house, 13, 6, 0, 1);
+        Check.is("items 3 to 9 of all areas", house.secret(13, 7, 0, true), 98);
+        for (int area = 0; area < 14; area++) {
+            Check.is("item 0", house.shown(area, 0, 0), 6);
+            Check.is("item 1", house.shown(area, 1, 0), 6);
+            Check.is("item 2", house.shown(area, 2, 0), 3);
+            for (int item = 3; item < 10; item++) {
+                Check.is("item " + item, house.shown(area, item, 0), HIDDEN);
+            }
+        }
     }
 
     private static void namesConstants() {
