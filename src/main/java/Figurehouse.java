@@ -52,13 +52,13 @@ public final class Figurehouse {
     // ---- areas, items, agreements
 
     public int area(int in) throws IndexOutOfBoundsException, IllegalStateException {
-        requirePattern(areas, in);
+        requireNumberOrNone(areas, in);
         requireRoom(areas);
         return areas.grow(in);
     }
 
     public int item(int in) throws IndexOutOfBoundsException, IllegalStateException {
-        requirePattern(items, in);
+        requireNumberOrNone(items, in);
         requireRoom(items);
         return items.grow(in);
     }
@@ -185,8 +185,8 @@ public final class Figurehouse {
 
     public int find(int area, int item, int from, int to, int since, int place)
             throws IndexOutOfBoundsException, IllegalArgumentException {
-        requirePattern(areas, area);
-        requirePattern(items, item);
+        requireNumberOrNone(areas, area);
+        requireNumberOrNone(items, item);
         if (place < 0) {
             throw new IndexOutOfBoundsException("place is below 0");
         }
@@ -217,7 +217,7 @@ public final class Figurehouse {
         }
     }
 
-    private static void requirePattern(Tree tree, int number) {
+    private static void requireNumberOrNone(Tree tree, int number) {
         if (number != NONE && !tree.has(number)) {
             throw new IndexOutOfBoundsException("no such area or item");
         }

@@ -1,7 +1,10 @@
+import java.io.IOException;
 import java.lang.reflect.Constructor;
 import java.lang.reflect.Field;
 import java.lang.reflect.Method;
 import java.lang.reflect.Modifier;
+import java.nio.file.Files;
+import java.nio.file.Path;
 import java.util.ArrayList;
 import java.util.Arrays;
 import java.util.List;
@@ -30,12 +33,31 @@ public final class FaceTest {
         "boolean mayTell(int,int) IndexOutOfBoundsException",
     };
 
-    public static void main(String[] args) throws IllegalAccessException {
+    public static void main(String[] args) throws IllegalAccessException, IOException {
+        standsAsTheDocumentTellsIt();
         hasMethods();
         hasConstants();
         hasConstructor();
         keepsRoom();
         Check.end("FaceTest");
+    }
+
+    /** Word by word, with the names of the parameters and the exceptions in their order. */
+    private static void standsAsTheDocumentTellsIt() throws IOException {
+        String document = Files.readString(Path.of("../shared/DOC.md"));
+        String source = Files.readString(Path.of("src/main/java/Figurehouse.java")).replaceAll("\\s+", " ");
+        String face = document.replaceFirst("(?s).*?```java\n(.*?)```.*", "$1");
+        int members = 0;
+        for (String line : face.split("\n")) {
+            if (line.endsWith(";")) {
+                String ending = line.contains("(") ? " {" : ";";
+                String member = line.trim().replace(";", ending);
+                Check.is("stands in the class: " + member, source.contains(" " + member), true);
+                members++;
+            }
+        }
+        Check.is("members of the face", members, FACE.length + 4);
+        Check.is("open members of the class, and itself", source.split("\\bpublic ").length - 1, members + 1);
     }
 
     private static String told(Method method) {
